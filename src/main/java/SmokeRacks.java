@@ -427,7 +427,7 @@ public final class SmokeRacks {
 
     /** The bits of a float that is 0, or of ordinary size and positive: Float is no part of the language kept to. */
     private static int bitsOf(float value) {
-        if (!(value > 0)) {
+        if (value <= 0) {
             return 0;
         }
         float rest = value;

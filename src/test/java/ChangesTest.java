@@ -22,6 +22,7 @@ final class ChangesTest {
         charOfAnHour();
         sell();
         throwAway();
+        nothingLeftBehind();
     }
 
     private void newObject() {
@@ -328,6 +329,14 @@ final class ChangesTest {
         check.due("sell(0)", house.sell(0), 6);
         check.due("the later fish is the first now", house.fishOf(0, 0), 5);
         check.due("fish, sold, earned, thrown", accounts(house), "1 1 6 0");
+        house.hang(0, 3, 0);
+        for (int hour = 0; hour < 12 && !house.isDone(0); hour++) {
+            house.logs(4 - house.account(3));
+            house.turn(0);
+            house.hours(1);
+        }
+        check.due("sell(0) again", house.sell(0), 15);
+        check.due("sold and earned add up", accounts(house), "0 2 21 0");
         check.due("salt 6 is paid", soldAt(6), 27 + 6);
         check.due("salt 8 is not", soldAt(8), 27);
         SmokeRacks burnt = Houses.smoking(2, 12, 3);
@@ -354,6 +363,38 @@ final class ChangesTest {
         check.due("the one that is left", house.throwAway(0), 6);
         check.due("fish, sold, earned, thrown", accounts(house), "0 0 0 4");
         check.refused("of none", house, 3, 0, () -> house.throwAway(0));
+    }
+
+    private void nothingLeftBehind() {
+        check.promise(13, "a fish that has gone leaves nothing behind");
+        SmokeRacks house = Houses.salted(5, 8, 12);
+        house.hours(1);
+        house.turn(0);
+        house.hours(2);
+        house.throwAway(0);
+        house.fish(3);
+        check.due("a new fish with the same number", View.of(house),
+            "1 0 0 9 0 3 4 0 0 1 |3 0 0 -1 -1 0 0 2 2 0~0 0~0  undo 8");
+
+        SmokeRacks last = Houses.with(1, 2, 9);
+        last.brine(0);
+        last.brine(2);
+        last.day();
+        last.throwAway(2);
+        check.due("salt in brine", last.day(), 4);
+        last.fish(9);
+        last.hang(1, 0, 0);
+        last.hang(2, 0, 1);
+        last.logs(12);
+        last.hours(1);
+        last.throwAway(2);
+        last.turn(1);
+        last.out(1);
+        check.due("burnt ones", last.hours(1), 1);
+        last.hang(1, 0, 1);
+        check.raises("its hook is free", java.util.NoSuchElementException.class, () -> last.at(0, 0));
+        check.raises("it is near to none", java.util.NoSuchElementException.class, () -> last.nearest(1));
+        check.due("turned with the rack", last.turnAll(0), 1);
     }
 
     /** What a fish of weight 9 with this salt is sold for, smoked gently in turns. */
