@@ -5,13 +5,20 @@ final class AllTests {
 
     public static void main(String[] arguments) throws Exception {
         Check check = new Check();
-        new ChangesTest(check).run();
-        new QuestionsTest(check).run();
-        new TextsTest(check).run();
-        new LinesTest(check).run();
-        new UndoTest(check).run();
-        new RunsTest(check).run();
-        new FaceTest(check).run();
+        check.guarded(new ChangesTest(check)::run);
+        check.guarded(new QuestionsTest(check)::run);
+        check.guarded(new TextsTest(check)::run);
+        check.guarded(new LinesTest(check)::run);
+        check.guarded(new UndoTest(check)::run);
+        check.guarded(new RunsTest(check)::run);
+        Document document = new Document(check, arguments[0]);
+        new EdgesOfTermsTest(check, document).run();
+        new EdgesOfTextsTest(check, document).run();
+        new EdgesOfChangesTest(check, document).run();
+        new EdgesOfQuestionsTest(check, document).run();
+        new EdgesOfLinesTest(check, document).run();
+        document.allIsTested();
+        check.guarded(new FaceTest(check)::run);
         new RulesTest(check, arguments[0]).run();
         System.out.println("project: " + check.passed + " passed, " + check.failed + " failed");
         if (check.failed > 0) {

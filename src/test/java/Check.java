@@ -14,6 +14,15 @@ final class Check {
         promise = name;
     }
 
+    /** A test that breaks off fails, and lets the others go on. */
+    void guarded(Runnable test) {
+        try {
+            test.run();
+        } catch (RuntimeException broken) {
+            count(false, "broke off by " + broken + " in " + broken.getStackTrace()[0]);
+        }
+    }
+
     void due(String what, Object got, Object want) {
         count(want.equals(got), what + " answered " + got + ", due is " + want);
     }
@@ -28,14 +37,17 @@ final class Check {
 
     /** The call is refused for the reason, which is kept with the command 0, and nothing else is changed. */
     void refused(String what, SmokeRacks house, int reason, int detail, Callable<?> call) {
-        String before = View.of(house);
+        String before = View.besidesReason(house);
         raises(what, UnsupportedOperationException.class, call);
-        due(what + ": the reason", reasonOf(house), reason + " " + detail + " 0");
-        due(what + ": the state", View.of(house), before);
+        due(what + ": the reason", View.reason(house), reason + " " + detail + " 0");
+        due(what + ": the state", View.besidesReason(house), before);
     }
 
-    static String reasonOf(SmokeRacks house) {
-        return house.reason(0) + " " + house.reason(1) + " " + house.reason(2);
+    /** The call throws, and nothing at all is changed. */
+    void leaves(String what, SmokeRacks house, Class<? extends RuntimeException> due, Callable<?> call) {
+        String before = View.whole(house);
+        raises(what, due, call);
+        due(what + ": the state", View.whole(house), before);
     }
 
     static String thrownBy(Callable<?> call) {

@@ -12,6 +12,15 @@ final class Houses {
         return house;
     }
 
+    /** With so many fish of weight 1, which lie outside. */
+    static SmokeRacks ofMany(int many) {
+        SmokeRacks house = new SmokeRacks();
+        for (int fish = 0; fish < many; fish++) {
+            house.fish(1);
+        }
+        return house;
+    }
+
     /** With fish of these weights, the first on the hook 0 of the rack, the next on the hook 9, then 8 and so on. */
     static SmokeRacks hanging(int rack, int... weights) {
         SmokeRacks house = with(weights);

@@ -104,7 +104,7 @@ final class TextsTest {
         Houses.append(byText, text);
         check.raises(text, REFUSED, byText::commands);
         check.raises(text + " as a method", REFUSED, () -> call.on(byMethod));
-        check.due(text + ": the reason", Check.reasonOf(byText), Check.reasonOf(byMethod));
+        check.due(text + ": the reason", View.reason(byText), View.reason(byMethod));
         check.due(text + ": the state", View.of(byText), View.of(busy()));
         check.due(text + ": the buffer", byText.account(11), 0);
         check.due(text + ": the fault", byText.faultPosition(), -1);
@@ -139,12 +139,12 @@ final class TextsTest {
         Houses.append(house, "f3;h0/00;h1/01;n3;x0;w2;l9;h1/01;f3");
         check.raises("the text", REFUSED, house::commands);
         check.due("none is carried out", View.of(house), before);
-        check.due("the reason: no fish 1 after 0 is gone", Check.reasonOf(house), "3 1 7");
+        check.due("the reason: no fish 1 after 0 is gone", View.reason(house), "3 1 7");
         check.due("no fault", house.faultPosition(), -1);
         check.due("the buffer", house.account(11), 0);
         Houses.append(house, "h0/00;n3;x0;w0");
         check.raises("another text", REFUSED, house::commands);
-        check.due("its reason", Check.reasonOf(house), "9 0 3");
+        check.due("its reason", View.reason(house), "9 0 3");
         check.due("none is carried out either", View.of(house), before);
         check.refused("a call afterwards has the index 0", house, 1, 0, () -> house.fish(0));
         check.due("undo", house.undo(), 1);
@@ -232,7 +232,7 @@ final class TextsTest {
         check.raises("reason(-1) at first", BAD, () -> house.reason(-1));
         house.fish(3);
         check.raises("refused", REFUSED, () -> house.sell(0));
-        check.due("kept", Check.reasonOf(house), "10 16 0");
+        check.due("kept", View.reason(house), "10 16 0");
         check.raises("reason(3)", BAD, () -> house.reason(3));
         check.raises("reason(-1)", BAD, () -> house.reason(-1));
         house.fish(4);
@@ -240,8 +240,8 @@ final class TextsTest {
         house.save();
         house.restore();
         check.raises("another exception", IndexOutOfBoundsException.class, () -> house.heat(7));
-        check.due("it stays", Check.reasonOf(house), "10 16 0");
+        check.due("it stays", View.reason(house), "10 16 0");
         check.raises("refused anew", REFUSED, () -> house.out(0));
-        check.due("the latest is kept", Check.reasonOf(house), "5 0 0");
+        check.due("the latest is kept", View.reason(house), "5 0 0");
     }
 }

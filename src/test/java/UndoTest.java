@@ -82,7 +82,7 @@ final class UndoTest {
         house.undo();
         check.due("the buffer", house.account(11), 2);
         check.due("the fault position", house.faultPosition(), 2);
-        check.due("the reason", Check.reasonOf(house), "8 0 0");
+        check.due("the reason", View.reason(house), "8 0 0");
         check.due("the line", View.line(house, 12), "2*0/0~0!/0~0");
         check.due("the text is whole", house.commands(), 1);
         check.due("the fish of the text", house.fishOf(0, 0), 7);
@@ -166,7 +166,7 @@ final class UndoTest {
             check.due("a change after it can be undone", house.undo(), 1);
         }
         check.due("the buffer stays", house.account(11), 1);
-        check.due("the reason stays", Check.reasonOf(house), "1 0 0");
+        check.due("the reason stays", View.reason(house), "1 0 0");
         check.due("the line stays", house.character(1), '*');
         house.undo();
         check.due("the snapshot outlives undo", house.restore(), 2);

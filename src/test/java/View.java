@@ -1,3 +1,5 @@
+import java.util.NoSuchElementException;
+
 /** All of a house that can be undone, and how much of it, as one text. */
 final class View {
     private View() {
@@ -24,7 +26,37 @@ final class View {
         return text.toString();
     }
 
-    /** The line that was written at last. */
+    /** All that can be asked of a house, with what undo leaves alone: the buffer, the fault, the reason and the line. */
+    static String whole(SmokeRacks house) {
+        return besidesReason(house) + " reason " + reason(house);
+    }
+
+    static String besidesReason(SmokeRacks house) {
+        return of(house) + " buffer " + house.account(11) + " fault " + house.faultPosition() + " line " + line(house);
+    }
+
+    static String reason(SmokeRacks house) {
+        try {
+            return house.reason(0) + " " + house.reason(1) + " " + house.reason(2);
+        } catch (NoSuchElementException none) {
+            return "none";
+        }
+    }
+
+    /** The line that was written at last, to its end. */
+    static String line(SmokeRacks house) {
+        StringBuilder text = new StringBuilder();
+        try {
+            for (int index = 0; index < 100; index++) {
+                text.append(house.character(index));
+            }
+            return text + " without an end";
+        } catch (IndexOutOfBoundsException end) {
+            return text.toString();
+        }
+    }
+
+    /** The line that was written at last, of this length. */
     static String line(SmokeRacks house, int length) {
         StringBuilder text = new StringBuilder();
         for (int index = 0; index < length; index++) {
