@@ -657,8 +657,8 @@ final class EdgesOfLinesTest {
         check.due("of twelve", full.restore(), 0);
         SmokeRacks emptied = Houses.ofMany(12);
         emptied.save();
-        while (emptied.account(0) > 0) {
-            emptied.throwAway(0);
+        for (int fish = 11; fish >= 0; fish--) {
+            emptied.throwAway(fish);
         }
         check.due("of none to twelve", emptied.restore(), 12);
     }

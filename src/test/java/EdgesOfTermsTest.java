@@ -328,6 +328,14 @@ final class EdgesOfTermsTest {
         check.due("with the most there is", hour(12, 3, 0, false), "15~9");
         check.due("turned down", hour(12, 3, 0, true), "15~0");
         check.due("half for the crowded", crowdedSmoke(12, 3, 3), 6);
+        SmokeRacks close = Houses.with(9, 1);
+        close.hang(0, 0, 4);
+        close.hang(1, 0, 6);
+        close.logs(5);
+        close.wood(2);
+        close.hours(2);
+        check.due("whole char for the crowded, and half smoke hour by hour", View.line(close, close.line(0)), "9*0/6~5!/0~0");
+        check.due("whole smoke for the one that is not", View.line(close, close.line(1)), "1*0/13~5!/0~0");
         SmokeRacks salted = Houses.salted(1, 9, 5);
         salted.hours(1);
         check.due("salt 9 bears 5", salted.sideOf(0, 0, true), 0);

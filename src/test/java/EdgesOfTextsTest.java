@@ -198,7 +198,7 @@ final class EdgesOfTextsTest {
         check.refused("10, without smoke", house, 10, 28, () -> house.sell(0));
         house.hours(1);
         check.refused("10, burnt", house, 10, 100, () -> house.sell(2));
-        while (house.account(0) < 12) {
+        for (int fish = 4; fish < 12; fish++) {
             house.fish(1);
         }
         check.refused("2, of fish", house, 2, 12, () -> house.fish(1));

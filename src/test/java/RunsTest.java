@@ -21,6 +21,34 @@ final class RunsTest {
         for (int run = 0; run < RUNS; run++) {
             oneRun(run % 2 == 0);
         }
+        asManyCalls();
+    }
+
+    /** An object is used for 512 calls: the last of them are answered as the first. */
+    private void asManyCalls() {
+        check.rule("512 calls");
+        SmokeRacks changed = new SmokeRacks();
+        for (int call = 0; call < 512; call += 2) {
+            check.due("logs", changed.logs(1), 1);
+            check.due("hours", changed.hours(24), 0);
+        }
+        check.due("hours so far", changed.account(5), 256 * 24);
+        SmokeRacks undone = new SmokeRacks();
+        for (int call = 0; call < 512; call += 4) {
+            check.due("fish", undone.fish(9), 0);
+            check.due("save", undone.save(), 1);
+            check.due("undo", undone.undo(), 0);
+            check.raises("refused", UnsupportedOperationException.class, () -> undone.sell(0));
+        }
+        check.due("restore", undone.restore(), 1);
+        SmokeRacks told = new SmokeRacks();
+        for (int call = 0; call < 512; call += 4) {
+            told.append('l');
+            told.append('1');
+            check.due("commands", told.commands(), 1);
+            check.due("hours", told.hours(1), 0);
+        }
+        check.due("changes", told.account(10), 8);
     }
 
     private int below(int bound) {
