@@ -11,6 +11,7 @@ final class AllTests {
         check.guarded(new LinesTest(check)::run);
         check.guarded(new UndoTest(check)::run);
         check.guarded(new RunsTest(check)::run);
+        check.guarded(new ModelTest(check)::run);
         Document document = new Document(check, arguments[0]);
         new EdgesOfTermsTest(check, document).run();
         new EdgesOfTextsTest(check, document).run();
@@ -20,6 +21,7 @@ final class AllTests {
         document.allIsTested();
         check.guarded(new FaceTest(check)::run);
         new RulesTest(check, arguments[0]).run();
+        new ReadmeTest(check, arguments[0]).run();
         System.out.println("project: " + check.passed + " passed, " + check.failed + " failed");
         if (check.failed > 0) {
             System.exit(1);
