@@ -559,8 +559,10 @@ final class Model {
 
     public int line(int fish) {
         Fish one = shown(fish);
-        written = String.format("%d*%d/%d~%d%s/%d~%d%s", one.weight, one.salt, one.smoke[0], one.charred[0],
-            one.down == 0 ? "!" : "", one.smoke[1], one.charred[1], one.down == 1 ? "!" : "");
+        written = one.weight + "*" + one.salt;
+        for (int side = 0; side < 2; side++) {
+            written += "/" + one.smoke[side] + "~" + one.charred[side] + (side == one.down ? "!" : "");
+        }
         return written.length();
     }
 
